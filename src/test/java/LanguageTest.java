@@ -127,7 +127,7 @@ public final class LanguageTest {
             }
         }
         for (int k = 0; k < 116; k++) {
-            x.formula(k % 8, SetsTest.signs(k % 7, 1, 2, 20, 17, 18, 16), 7);
+            x.formula(k % 8, Made.signs(k % 7, 1, 2, 20, 17, 18, 16), 7);
             x.join(k % 8, 1, k % 5, k % 3);
             x.write(k % 8);
             x.read(k % 7);

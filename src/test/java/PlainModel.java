@@ -9,7 +9,7 @@ import java.util.TreeMap;
  * The document told once more, as plainly as can be and without a thought of speed, with the Java
  * library. ModelTest holds the class against it.
  */
-final class PlainModel {
+final class PlainModel implements Index {
     static final int NONE = -1, BAD = -2, FULL = -3, LONG = -4, SPENT = -5;
 
     /** Lows and kind of one container. */
@@ -96,7 +96,7 @@ final class PlainModel {
         return b == null ? new BitSet() : (BitSet) b.lows.clone();
     }
 
-    int add(int set, int v) {
+    @Override public int add(int set, int v) {
         if (!within(set, 0, 7)) return BAD;
         BitSet lows = lowsOf(set, v >>> 16);
         if (lows.get(v & 65535)) return 0;
@@ -104,7 +104,7 @@ final class PlainModel {
         return put(set, v >>> 16, lows) ? 1 : FULL;
     }
 
-    int remove(int set, int v) {
+    @Override public int remove(int set, int v) {
         if (!within(set, 0, 7)) return BAD;
         BitSet lows = lowsOf(set, v >>> 16);
         if (!lows.get(v & 65535)) return 0;
@@ -113,7 +113,7 @@ final class PlainModel {
         return 1;
     }
 
-    int range(int set, int key, int from, int to, int how) {
+    @Override public int range(int set, int key, int from, int to, int how) {
         if (!within(set, 0, 7) || !within(key, 0, 65535) || !within(from, 0, 65535)) return BAD;
         if (!within(to, from, 65535) || !within(how, 0, 2)) return BAD;
         BitSet lows = lowsOf(set, key);
@@ -123,7 +123,7 @@ final class PlainModel {
         return put(set, key, lows) ? total(sets.get(set)) : FULL;
     }
 
-    int steps(int set, int key, int from, int step) {
+    @Override public int steps(int set, int key, int from, int step) {
         if (!within(set, 0, 7) || !within(key, 0, 65535) || !within(from, 0, 65535)) return BAD;
         if (!within(step, 1, 65535)) return BAD;
         BitSet lows = lowsOf(set, key);
@@ -131,7 +131,7 @@ final class PlainModel {
         return put(set, key, lows) ? total(sets.get(set)) : FULL;
     }
 
-    int clear(int set) {
+    @Override public int clear(int set) {
         if (!within(set, 0, 7)) return BAD;
         int n = total(sets.get(set));
         sets.get(set).clear();
@@ -169,7 +169,7 @@ final class PlainModel {
         return r;
     }
 
-    int join(int to, int what, int a, int b) {
+    @Override public int join(int to, int what, int a, int b) {
         if (!within(to, 0, 7) || !within(what, 0, 3) || !within(a, 0, 7) || !within(b, 0, 7)) return BAD;
         if (work < 1) return SPENT;
         work -= 1;
@@ -179,7 +179,7 @@ final class PlainModel {
         return total(r);
     }
 
-    int shrink(int set) {
+    @Override public int shrink(int set) {
         if (!within(set, 0, 7)) return BAD;
         if (work < 1) return SPENT;
         work -= 1;
@@ -195,7 +195,7 @@ final class PlainModel {
         return n;
     }
 
-    int formula(int to, long signs, int n) {
+    @Override public int formula(int to, long signs, int n) {
         if (!within(to, 0, 7) || !within(n, 1, 8)) return BAD;
         List<TreeMap<Integer, Box>> pile = new ArrayList<>();
         boolean full = false;
@@ -228,12 +228,12 @@ final class PlainModel {
         return total(pile.get(0));
     }
 
-    int has(int set, int v) {
+    @Override public int has(int set, int v) {
         if (!within(set, 0, 7)) return BAD;
         return lowsOf(set, v >>> 16).get(v & 65535) ? 1 : 0;
     }
 
-    int rank(int set, int v) {
+    @Override public int rank(int set, int v) {
         if (!within(set, 0, 7)) return BAD;
         int n = 0;
         for (Map.Entry<Integer, Box> e : sets.get(set).entrySet()) {
@@ -243,7 +243,7 @@ final class PlainModel {
         return n;
     }
 
-    long select(int set, int i) {
+    @Override public long select(int set, int i) {
         if (!within(set, 0, 7) || i < 0) return BAD;
         int n = i;
         for (Map.Entry<Integer, Box> e : sets.get(set).entrySet()) {
@@ -259,7 +259,7 @@ final class PlainModel {
         return NONE;
     }
 
-    long next(int set, int v) {
+    @Override public long next(int set, int v) {
         if (!within(set, 0, 7)) return BAD;
         for (Map.Entry<Integer, Box> e : sets.get(set).tailMap(v >>> 16).entrySet()) {
             int low = e.getValue().lows.nextSetBit(e.getKey() == v >>> 16 ? v & 65535 : 0);
@@ -268,7 +268,7 @@ final class PlainModel {
         return NONE;
     }
 
-    int count(int set, int what) {
+    @Override public int count(int set, int what) {
         if (!within(set, 0, 7) || !within(what, 0, 4)) return BAD;
         if (what == 0) return total(sets.get(set));
         int n = 0;
@@ -278,14 +278,14 @@ final class PlainModel {
         return n;
     }
 
-    int container(int set, int k, int what) {
+    @Override public int container(int set, int k, int what) {
         if (!within(set, 0, 7) || !within(k, 0, sets.get(set).size() - 1) || !within(what, 0, 3)) return BAD;
         int key = new ArrayList<>(sets.get(set).keySet()).get(k);
         Box b = sets.get(set).get(key);
         return what == 0 ? key : what == 1 ? b.kind : what == 2 ? b.lows.cardinality() : b.runs().size();
     }
 
-    int compare(int a, int b) {
+    @Override public int compare(int a, int b) {
         if (!within(a, 0, 7) || !within(b, 0, 7)) return BAD;
         int both = 0;
         for (int key : sets.get(a).keySet()) {
@@ -324,7 +324,7 @@ final class PlainModel {
         return to;
     }
 
-    int write(int set) {
+    @Override public int write(int set) {
         if (!within(set, 0, 7)) return BAD;
         TreeMap<Integer, Box> s = sets.get(set);
         ByteArrayOutputStream head = new ByteArrayOutputStream();
@@ -421,7 +421,7 @@ final class PlainModel {
         return new Box(lows, kind);
     }
 
-    int read(int set) {
+    @Override public int read(int set) {
         if (!within(set, 0, 7)) return BAD;
         if (work < 1) return SPENT;
         work -= 1;
@@ -436,41 +436,41 @@ final class PlainModel {
         }
     }
 
-    int fault() {
+    @Override public int fault() {
         return fault;
     }
 
-    int cut(int n) {
+    @Override public int cut(int n) {
         if (!within(n, 0, bytes.size())) return BAD;
         int gone = bytes.size() - n;
         bytes = new ArrayList<>(bytes.subList(0, n));
         return gone;
     }
 
-    int type(long w, int m) {
+    @Override public int type(long w, int m) {
         if (!within(m, 0, 8)) return BAD;
         if (bytes.size() + m > 60000) return LONG;
         for (int k = 0; k < m; k++) bytes.add((int) (w >> 8 * k & 255));
         return bytes.size();
     }
 
-    int at(int i) {
+    @Override public int at(int i) {
         return within(i, 0, bytes.size() - 1) ? bytes.get(i) : BAD;
     }
 
-    int alter(int i, int v) {
+    @Override public int alter(int i, int v) {
         return within(i, 0, bytes.size() - 1) && within(v, 0, 255) ? bytes.set(i, v) : BAD;
     }
 
-    int work() {
+    @Override public int work() {
         return work;
     }
 
-    int size() {
+    @Override public int size() {
         return bytes.size();
     }
 
-    long digest() {
+    @Override public long digest() {
         long h = 17;
         for (int s = 0; s < 8; s++) {
             h = 31 * h + count(s, 0);

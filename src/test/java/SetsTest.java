@@ -1,5 +1,3 @@
-import java.util.function.ToIntFunction;
-
 /** Promises 1 to 9: a new object, add, remove, range, steps, clear, join, shrink, formula. */
 public final class SetsTest {
     private static final int BAD = -2, FULL = -3, SPENT = -5;
@@ -28,7 +26,7 @@ public final class SetsTest {
     }
 
     private static void aNewObject() {
-        RoaringIndex x = new RoaringIndex();
+        Index x = new CountedIndex();
         for (int s = 0; s < 8; s++) {
             for (int what = 0; what <= 4; what++) {
                 due.is("new count(" + s + ", " + what + ")", x.count(s, what), 0);
@@ -45,7 +43,7 @@ public final class SetsTest {
     }
 
     private static void add() {
-        RoaringIndex x = new RoaringIndex();
+        Index x = new CountedIndex();
         due.is("add(0, 7)", x.add(0, 7), 1);
         due.is("add(0, 7) again", x.add(0, 7), 0);
         due.is("add(7, -1)", x.add(7, -1), 1);
@@ -69,7 +67,7 @@ public final class SetsTest {
     }
 
     private static void remove() {
-        RoaringIndex x = new RoaringIndex();
+        Index x = new CountedIndex();
         due.is("remove from an empty one", x.remove(0, 7), 0);
         x.add(0, 7);
         x.add(0, 65536);
@@ -87,7 +85,7 @@ public final class SetsTest {
     }
 
     private static void range() {
-        RoaringIndex x = new RoaringIndex();
+        Index x = new CountedIndex();
         due.is("all", x.range(0, 9, 0, 65535, 0), 65536);
         due.is("go in part", x.range(0, 9, 1, 65534, 1), 2);
         due.is("flip", x.range(0, 9, 0, 1, 2), 2);
@@ -104,7 +102,7 @@ public final class SetsTest {
         for (int[] b : bad) {
             due.is("range of " + java.util.Arrays.toString(b), x.range(b[0], b[1], b[2], b[3], b[4]), BAD);
         }
-        fillSix(x, 1);
+        Made.six(x, 1);
         due.is("a seventh comes", x.range(1, 99, 0, 5, 0), FULL);
         due.is("a seventh is flipped", x.range(1, 99, 0, 5, 2), FULL);
         due.is("a seventh goes", x.range(1, 99, 0, 5, 1), 6);
@@ -118,7 +116,7 @@ public final class SetsTest {
                 if (from > to) {
                     continue;
                 }
-                RoaringIndex x = new RoaringIndex();
+                Index x = new CountedIndex();
                 String span = from + " .. " + to;
                 due.is(span + " come", x.range(0, 0, from, to, 0), to - from + 1);
                 due.is(span + " first", x.next(0, 0), from);
@@ -132,7 +130,7 @@ public final class SetsTest {
     }
 
     private static void steps() {
-        RoaringIndex x = new RoaringIndex();
+        Index x = new CountedIndex();
         due.is("each", x.steps(0, 0, 0, 1), 65536);
         due.is("one", x.steps(1, 65535, 65535, 65535), 1);
         due.is("that one", x.has(1, -1), 1);
@@ -149,15 +147,15 @@ public final class SetsTest {
         due.is("key 65536", x.steps(0, 65536, 0, 1), BAD);
         due.is("set 8", x.steps(8, 0, 0, 1), BAD);
         due.is("set -1", x.steps(-1, 0, 0, 1), BAD);
-        fillSix(x, 3);
+        Made.six(x, 3);
         due.is("a seventh", x.steps(3, 99, 0, 9), FULL);
         due.is("one of six", x.steps(3, 5, 0, 65535), 7);
     }
 
     private static void clear() {
-        RoaringIndex x = new RoaringIndex();
+        Index x = new CountedIndex();
         due.is("clear an empty one", x.clear(0), 0);
-        fillSix(x, 0);
+        Made.six(x, 0);
         x.range(0, 5, 0, 9999, 0);
         due.is("clear(0)", x.clear(0), 10005);
         due.is("empty then", x.count(0, 0), 0);
@@ -171,7 +169,7 @@ public final class SetsTest {
 
     /** A container changed is an array up to 4096; one that is left as it was keeps its kind. */
     private static void kindsByChange() {
-        RoaringIndex x = new RoaringIndex();
+        Index x = new CountedIndex();
         x.range(0, 0, 0, 4095, 0);
         due.is("4096 are an array", x.container(0, 0, 1), 0);
         x.add(0, 4096);
@@ -202,7 +200,7 @@ public final class SetsTest {
     }
 
     private static void join() {
-        RoaringIndex x = new RoaringIndex();
+        Index x = new CountedIndex();
         x.range(0, 1, 0, 9, 0);
         x.range(0, 2, 0, 9, 0);
         x.range(1, 2, 5, 14, 0);
@@ -233,7 +231,7 @@ public final class SetsTest {
     }
 
     private static void joinKinds() {
-        RoaringIndex x = new RoaringIndex();
+        Index x = new CountedIndex();
         x.range(0, 0, 0, 99, 0);
         x.shrink(0);
         x.range(1, 0, 0, 99, 0);
@@ -273,8 +271,8 @@ public final class SetsTest {
     }
 
     private static void joinFull() {
-        RoaringIndex x = new RoaringIndex();
-        fillSix(x, 0);
+        Index x = new CountedIndex();
+        Made.six(x, 0);
         for (int k = 10; k < 16; k++) {
             x.add(1, k << 16);
         }
@@ -302,7 +300,7 @@ public final class SetsTest {
     }
 
     private static void shrink() {
-        RoaringIndex x = new RoaringIndex();
+        Index x = new CountedIndex();
         due.is("shrink an empty one", x.shrink(0), 0);
         x.range(0, 0, 0, 65535, 0);
         x.steps(0, 1, 0, 2);
@@ -320,7 +318,7 @@ public final class SetsTest {
     }
 
     private static void shrinkEdges() {
-        RoaringIndex x = new RoaringIndex();
+        Index x = new CountedIndex();
         x.range(0, 0, 10, 12, 0);
         due.is("6 bytes are not below 6", x.shrink(0), 0);
         x.range(0, 0, 10, 13, 0);
@@ -341,116 +339,115 @@ public final class SetsTest {
     }
 
     private static void formula() {
-        RoaringIndex x = new RoaringIndex();
+        Index x = new CountedIndex();
         x.range(0, 0, 0, 9, 0);
         x.range(1, 0, 5, 14, 0);
         x.range(2, 0, 8, 20, 0);
-        due.is("0", x.formula(7, signs(0), 1), 10);
-        due.is("0 1 and", x.formula(7, signs(0, 1, 16), 3), 5);
-        due.is("0 1 or", x.formula(7, signs(0, 1, 17), 3), 15);
-        due.is("0 1 xor", x.formula(7, signs(0, 1, 18), 3), 10);
-        due.is("0 1 but", x.formula(7, signs(0, 1, 19), 3), 5);
+        due.is("0", x.formula(7, Made.signs(0), 1), 10);
+        due.is("0 1 and", x.formula(7, Made.signs(0, 1, 16), 3), 5);
+        due.is("0 1 or", x.formula(7, Made.signs(0, 1, 17), 3), 15);
+        due.is("0 1 xor", x.formula(7, Made.signs(0, 1, 18), 3), 10);
+        due.is("0 1 but", x.formula(7, Made.signs(0, 1, 19), 3), 5);
         due.is("the first five", x.select(7, 4), 4);
-        due.is("1 0 but", x.formula(7, signs(1, 0, 19), 3), 5);
+        due.is("1 0 but", x.formula(7, Made.signs(1, 0, 19), 3), 5);
         due.is("the last five", x.select(7, 0), 10);
-        due.is("0 1 2 and or", x.formula(7, signs(0, 1, 2, 16, 17), 5), 15);
-        due.is("0 1 and 2 or", x.formula(7, signs(0, 1, 16, 2, 17), 5), 16);
-        due.is("0 1 2 but but", x.formula(7, signs(0, 1, 2, 19, 19), 5), 7);
-        due.is("all 0 but", x.formula(7, signs(20, 0, 19), 3), 65526);
-        due.is("all", x.formula(7, signs(20), 1), 65536);
+        due.is("0 1 2 and or", x.formula(7, Made.signs(0, 1, 2, 16, 17), 5), 15);
+        due.is("0 1 and 2 or", x.formula(7, Made.signs(0, 1, 16, 2, 17), 5), 16);
+        due.is("0 1 2 but but", x.formula(7, Made.signs(0, 1, 2, 19, 19), 5), 7);
+        due.is("all 0 but", x.formula(7, Made.signs(20, 0, 19), 3), 65526);
+        due.is("all", x.formula(7, Made.signs(20), 1), 65536);
         due.is("of one container", x.count(7, 1), 1);
         due.is("of key 0", x.container(7, 0, 0), 0);
         due.is("a bitmap", x.container(7, 0, 1), 1);
-        due.is("to is used", x.formula(0, signs(0, 1, 0, 16, 17), 5), 10);
-        due.is("nothing is passed over", x.formula(7, signs(255, 0, 255, 1, 255, 17, 255, 255), 8), 15);
-        due.is("what is behind n is not looked at", x.formula(7, signs(1, 99, 99, 0, 0, 0, 0, 255), 1), 10);
-        due.is("seven signs", x.formula(7, signs(0, 1, 2, 20, 18, 18, 18), 7), 65536 - 13);
-        due.is("a copy of itself", x.formula(0, signs(0), 1), 10);
-        due.is("an empty one", x.formula(7, signs(6), 1), 0);
+        due.is("to is used", x.formula(0, Made.signs(0, 1, 0, 16, 17), 5), 10);
+        due.is("nothing is passed over", x.formula(7, Made.signs(255, 0, 255, 1, 255, 17, 255, 255), 8), 15);
+        due.is("what is behind n is not looked at", x.formula(7, Made.signs(1, 99, 99, 0, 0, 0, 0, 255), 1), 10);
+        due.is("seven signs", x.formula(7, Made.signs(0, 1, 2, 20, 18, 18, 18), 7), 65536 - 13);
+        due.is("a copy of itself", x.formula(0, Made.signs(0), 1), 10);
+        due.is("an empty one", x.formula(7, Made.signs(6), 1), 0);
         due.is("work", x.work(), 300 - 1 - 5 * 3 - 3 * 5 - 3 - 1 - 5 - 8 - 1 - 7 - 1 - 1);
     }
 
     private static void formulaKinds() {
-        RoaringIndex x = new RoaringIndex();
+        Index x = new CountedIndex();
         x.range(0, 0, 0, 99, 0);
         x.shrink(0);
         x.range(1, 0, 0, 99, 0);
         x.range(2, 0, 0, 199, 0);
-        x.formula(7, signs(0), 1);
+        x.formula(7, Made.signs(0), 1);
         due.is("a set so", x.container(7, 0, 1), 2);
-        x.formula(7, signs(1, 0, 16), 3);
+        x.formula(7, Made.signs(1, 0, 16), 3);
         due.is("the lower one ahead", x.container(7, 0, 1), 0);
-        x.formula(7, signs(0, 1, 16), 3);
+        x.formula(7, Made.signs(0, 1, 16), 3);
         due.is("the lower one of runs", x.container(7, 0, 1), 2);
-        x.formula(7, signs(2, 0, 16), 3);
+        x.formula(7, Made.signs(2, 0, 16), 3);
         due.is("just the upper one", x.container(7, 0, 1), 2);
-        x.formula(7, signs(2, 0, 16, 20, 16), 5);
+        x.formula(7, Made.signs(2, 0, 16, 20, 16), 5);
         due.is("kept through the pile", x.container(7, 0, 1), 2);
-        x.formula(7, signs(2, 0, 19, 0, 17), 5);
+        x.formula(7, Made.signs(2, 0, 19, 0, 17), 5);
         due.is("200 made anew", x.container(7, 0, 1), 0);
         x.range(3, 0, 0, 65535, 0);
         x.shrink(3);
-        x.formula(7, signs(20, 3, 17), 3);
+        x.formula(7, Made.signs(20, 3, 17), 3);
         due.is("all ahead of runs", x.container(7, 0, 1), 1);
-        x.formula(7, signs(3, 20, 17), 3);
+        x.formula(7, Made.signs(3, 20, 17), 3);
         due.is("runs ahead of all", x.container(7, 0, 1), 2);
     }
 
     private static void formulaBad() {
-        RoaringIndex x = new RoaringIndex();
+        Index x = new CountedIndex();
         x.add(0, 1);
         x.add(7, 5);
         long before = x.digest();
         due.is("n 0", x.formula(7, 0, 0), BAD);
-        due.is("n 9", x.formula(7, signs(0, 255, 255, 255, 255, 255, 255, 255), 9), BAD);
+        due.is("n 9", x.formula(7, Made.signs(0, 255, 255, 255, 255, 255, 255, 255), 9), BAD);
         due.is("n -1", x.formula(7, 0, -1), BAD);
         due.is("n MIN", x.formula(7, 0, Integer.MIN_VALUE), BAD);
         due.is("to 8", x.formula(8, 0, 1), BAD);
         due.is("to -1", x.formula(-1, 0, 1), BAD);
         int[] none = {8, 9, 15, 21, 32, 127, 128, 254};
         for (int sign : none) {
-            due.is("sign " + sign, x.formula(7, signs(sign), 1), BAD);
-            due.is("0, then sign " + sign, x.formula(7, signs(0, sign), 2), BAD);
+            due.is("sign " + sign, x.formula(7, Made.signs(sign), 1), BAD);
+            due.is("0, then sign " + sign, x.formula(7, Made.signs(0, sign), 2), BAD);
         }
         for (int sign = 16; sign <= 19; sign++) {
-            due.is("no set for " + sign, x.formula(7, signs(sign), 1), BAD);
-            due.is("one set for " + sign, x.formula(7, signs(0, sign), 2), BAD);
-            due.is("one set late for " + sign, x.formula(7, signs(0, sign, 0), 3), BAD);
+            due.is("no set for " + sign, x.formula(7, Made.signs(sign), 1), BAD);
+            due.is("one set for " + sign, x.formula(7, Made.signs(0, sign), 2), BAD);
+            due.is("one set late for " + sign, x.formula(7, Made.signs(0, sign, 0), 3), BAD);
         }
-        due.is("two in the end", x.formula(7, signs(0, 0), 2), BAD);
-        due.is("none in the end", x.formula(7, signs(255), 1), BAD);
-        due.is("eight in the end", x.formula(7, signs(0, 1, 2, 3, 4, 5, 6, 7), 8), BAD);
+        due.is("two in the end", x.formula(7, Made.signs(0, 0), 2), BAD);
+        due.is("none in the end", x.formula(7, Made.signs(255), 1), BAD);
+        due.is("eight in the end", x.formula(7, Made.signs(0, 1, 2, 3, 4, 5, 6, 7), 8), BAD);
         due.is("nothing has changed", x.digest(), before);
         due.is("no work is taken", x.work(), 300);
     }
 
     private static void formulaFull() {
-        RoaringIndex x = new RoaringIndex();
-        fillSix(x, 0);
+        Index x = new CountedIndex();
+        Made.six(x, 0);
         x.add(1, 6 << 16);
         x.add(7, 5);
         long before = x.digest();
-        due.is("seven", x.formula(7, signs(0, 1, 17), 3), FULL);
-        due.is("seven on the pile alone", x.formula(7, signs(0, 1, 17, 1, 16), 5), FULL);
-        due.is("BAD is ahead of it", x.formula(7, signs(0, 1, 17, 1), 4), BAD);
+        due.is("seven", x.formula(7, Made.signs(0, 1, 17), 3), FULL);
+        due.is("seven on the pile alone", x.formula(7, Made.signs(0, 1, 17, 1, 16), 5), FULL);
+        due.is("BAD is ahead of it", x.formula(7, Made.signs(0, 1, 17, 1), 4), BAD);
         due.is("nothing has changed", x.digest(), before);
         due.is("work is taken", x.work(), 292);
-        due.is("after it all is well", x.formula(7, signs(0, 0, 17), 3), 6);
+        due.is("after it all is well", x.formula(7, Made.signs(0, 0, 17), 3), 6);
     }
 
     private static void spent() {
-        ToIntFunction<RoaringIndex> formulaOfTwo = x -> x.formula(0, signs(0, 255), 2);
-        RoaringIndex x = new RoaringIndex();
-        fillSix(x, 0);
+        Index x = new CountedIndex();
+        Made.six(x, 0);
         x.add(1, -1);
         for (int k = 0; k < 37; k++) {
-            x.formula(2, signs(255, 0, 255, 255, 255, 255, 255, 255), 8);
+            x.formula(2, Made.signs(255, 0, 255, 255, 255, 255, 255, 255), 8);
         }
         due.is("left", x.work(), 4);
-        due.is("not enough", x.formula(2, signs(0, 1, 255, 17, 255), 5), SPENT);
+        due.is("not enough", x.formula(2, Made.signs(0, 1, 255, 17, 255), 5), SPENT);
         due.is("it takes none", x.work(), 4);
-        due.is("FULL takes 3", x.formula(2, signs(0, 1, 17), 3), FULL);
-        due.is("not enough for 2", formulaOfTwo.applyAsInt(x), SPENT);
+        due.is("FULL takes 3", x.formula(2, Made.signs(0, 1, 17), 3), FULL);
+        due.is("not enough for 2", x.formula(0, Made.signs(0, 255), 2), SPENT);
         due.is("one is left", x.join(2, 1, 0, 1), FULL);
         due.is("none is left", x.work(), 0);
         due.is("join", x.join(2, 1, 0, 1), SPENT);
@@ -466,21 +463,14 @@ public final class SetsTest {
         due.is("write needs none", x.write(3), 18);
     }
 
-    /** One number of each key 0 to 5. */
-    private static void fillSix(RoaringIndex x, int set) {
-        for (int k = 0; k < 6; k++) {
-            x.add(set, k << 16);
-        }
-    }
-
-    private static void putPairs(RoaringIndex x, int set, int pairs, int apart) {
+    private static void putPairs(Index x, int set, int pairs, int apart) {
         x.steps(set, 0, 0, apart);
         x.steps(set, 0, 1, apart);
         x.range(set, 0, pairs * apart, 65535, 1);
     }
 
     /** A container of runs of one number each, as only a read can make it. */
-    private static void readRunsOfSingles(RoaringIndex x, int set, int n) {
+    private static void readRunsOfSingles(Index x, int set, int n) {
         x.cut(0);
         x.type(12347, 4);
         x.type(1, 1);
@@ -491,13 +481,5 @@ public final class SetsTest {
             x.type(2 * k, 4);
         }
         x.read(set);
-    }
-
-    static long signs(int... bytes) {
-        long w = 0;
-        for (int k = 0; k < bytes.length; k++) {
-            w |= (long) bytes[k] << 8 * k;
-        }
-        return w;
     }
 }
