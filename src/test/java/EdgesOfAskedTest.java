@@ -102,6 +102,8 @@ public final class EdgesOfAskedTest {
         due.is("of a full SET: behind it", x.select(1, 5 * 65536), 4294901760L);
         due.is("of a full SET: the last", x.select(1, 393215), 4294967295L);
         due.is("of a full SET: one too great", x.select(1, 393216), NONE);
+        x.clear(1);
+        due.is("of one that was full and is empty", x.select(1, 0), NONE);
         x.range(3, 0, 63, 64, 0);
         x.add(3, 65535);
         due.is("the end of a word", x.select(3, 0), 63);

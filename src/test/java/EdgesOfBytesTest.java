@@ -134,6 +134,11 @@ public final class EdgesOfBytesTest {
         x.shrink(2);
         x.write(2);
         dueFrom("n 6, all: two bits over are 0", x, 0, 0x3B, 0x30, 5, 0, 63);
+        x.clear(2);
+        x.range(2, 9, 0, 9, 0);
+        x.shrink(2);
+        due.is("n 1, where six were", x.write(2), 15);
+        dueFrom("n 1, where six were: all over is 0", x, 0, 0x3B, 0x30, 0, 0, 1);
     }
 
     private static void keysAndTotals() {
@@ -233,10 +238,10 @@ public final class EdgesOfBytesTest {
         dueFrom("their number", x, 9, 0xFF, 7);
         dueFrom("the last", x, 9 + 2 + 4 * 2046, 0xE0, 0x7F, 1, 0);
         Index y = new CountedIndex();
-        Made.singleRuns(y, 0, false);
+        Made.singleRuns(y, 0, 4095, false);
         due.is("4095, as read", y.write(0), 16405);
         dueFrom("their number", y, 23, 0xFF, 0x0F);
-        dueFrom("the last", y, 16401, 0xE0, 0xFF, 0, 0);
+        dueFrom("the last", y, 16401, 0xF0, 0x7F, 0, 0);
     }
 
     // ---- Promise 17
@@ -279,6 +284,40 @@ public final class EdgesOfBytesTest {
         due.is("and can be read", x.read(1), 1303 + 2 * 4095 + 3 * 32768);
         x.shrink(0);
         due.is("shrunken it is short enough", x.write(0), 53 + 6 + 2 * 8190 + 3 * 8192);
+        longWithoutPlaces();
+        longWhereOthersWere();
+    }
+
+    /** What a SET held before has no say in how long it is. */
+    private static void longWhereOthersWere() {
+        Index x = new CountedIndex();
+        for (int key = 0; key < 6; key++) {
+            x.steps(7, key, 0, 2);
+        }
+        for (int set = 0; set < 7; set++) {
+            x.join(set, 1, 7, 7);
+        }
+        for (int set = 0; set < 8; set++) {
+            x.clear(set);
+        }
+        Made.longSetOfThree(x, 0);
+        due.is("59999, where six BITMAPS were", x.write(0), 59999);
+    }
+
+    private static void longWithoutPlaces() {
+        Index x = new CountedIndex();
+        Made.longSetOfThree(x, 0);
+        due.is("three, two of them RUNS", x.count(0, 1) * 10 + x.count(0, 4), 32);
+        due.is("59999 without places", x.write(0), 59999);
+        due.is("can be read", x.read(1), 13 + 8191 + 6797);
+        x.add(0, 13);
+        Watch watch = new Watch(due, x);
+        watch.refused("60001 without places", x.write(0), LONG);
+        x.add(1, 3 << 16);
+        watch.anew();
+        watch.refused("a fourth, so that there are places", x.write(1), LONG);
+        x.range(1, 0, 2, 12, 1);
+        due.is("60021 less 22 with places", x.write(1), 59999 + 4 + 16 + 2 - 22);
     }
 
     // ---- Promises 20 to 23 and 25

@@ -60,6 +60,10 @@ public final class EdgesOfFormulasTest {
         due.is("nor those that make the long less than 0", x.formula(6, 0x8063636363636304L, 1), 50);
         due.is("a long of bits alone", x.formula(6, 0xFFFFFFFFFFFFFF03L, 8), 40);
         due.is("the highest byte is a sign with 8", x.formula(6, 0x1302FFFFFFFFFF03L, 8), 10);
+        for (int sign : new int[] {0, 5, AND, OR, XOR, BUT, ALL, IDLE}) {
+            due.is("nor a right sign " + sign, x.formula(6, Made.signs(4, sign), 1), 50);
+            due.is("nor behind a join", x.formula(6, Made.signs(4, 3, BUT, sign), 3), 10);
+        }
         Watch watch = new Watch(due, x);
         watch.refused("it is looked at", x.formula(6, 0x80FFFFFFFFFFFF03L, 8), BAD);
         watch.refused("it is looked at too", x.formula(6, 0x7FFFFFFFFFFFFF03L, 8), BAD);
@@ -370,6 +374,8 @@ public final class EdgesOfFormulasTest {
         Watch watch = new Watch(due, x);
         watch.refused("n 0", x.formula(7, 0, 0), BAD);
         watch.refused("n 9, nine sets", x.formula(7, 0, 9), BAD);
+        watch.refused("n 9, though the first sign again would be right",
+            x.formula(7, Made.signs(IDLE, 3, IDLE, IDLE, IDLE, IDLE, IDLE, IDLE), 9), BAD);
         int[] right = {0, 1, 2, 3, 4, 5, 6, 7, AND, OR, XOR, BUT, ALL, IDLE};
         for (int sign = 0; sign < 256; sign++) {
             boolean isRight = java.util.Arrays.binarySearch(right, sign) >= 0;

@@ -207,6 +207,8 @@ public final class EdgesOfSetsTest {
         x.add(0, (2 << 16) + 5);
         due.is("a new one has the new NUMBER alone", x.container(0, 1, 2), 1);
         due.is("the old one is not there", x.has(0, 2 << 16), 0);
+        due.is("those beside it stay", x.has(0, 1 << 16) + x.has(0, 3 << 16), 2);
+        due.is("three in all", x.count(0, 0) * 10 + x.count(0, 1), 33);
     }
 
     private static void aContainerThatIsEmptiedByAJoinIsNone() {
@@ -468,13 +470,13 @@ public final class EdgesOfSetsTest {
         due.is("RUNS of three LOWS, as read", x.container(0, 0, 1), 2);
         due.is("6 and 6", x.shrink(0), 0);
         due.is("an ARRAY", x.container(0, 0, 1), 0);
-        Made.singleRuns(x, 1, true);
+        Made.singleRuns(x, 1, 4095, true);
         due.is("RUNS of 8190 LOWS, as read", x.container(1, 1, 2) * 10 + x.container(1, 1, 1), 81902);
         due.is("16382 and 8192; the other has 6 and 10", x.shrink(1), 1);
         due.is("a BITMAP", x.container(1, 1, 1), 1);
         due.is("the other is RUNS", x.container(1, 0, 1), 2);
         Index y = new CountedIndex();
-        Made.singleRuns(y, 1, false);
+        Made.singleRuns(y, 1, 4095, false);
         due.is("RUNS of 4095 LOWS, as read", y.container(1, 1, 2) * 10 + y.container(1, 1, 1), 40952);
         due.is("16382 and 8190", y.shrink(1), 1);
         due.is("an ARRAY", y.container(1, 1, 1), 0);
@@ -706,6 +708,11 @@ public final class EdgesOfSetsTest {
         isGone("clear", x, 0);
         due.is("again", x.clear(0), 0);
         due.is("the others stay", x.count(1, 0), 1);
+        x.add(0, 5);
+        due.is("one comes", x.count(0, 0) * 10 + x.count(0, 1), 11);
+        due.is("none behind it", x.select(0, 1), NONE);
+        due.is("none above it", x.next(0, 6), NONE);
+        x.clear(0);
         Made.six(x, 0);
         due.is("there is room for six again", x.count(0, 0), 6);
         due.says("Promise 6", "BAD.");

@@ -42,7 +42,7 @@ final class Made {
         }
     }
 
-    /** The LOWS of a key become so many rows, so many LOWS in all: two each, the first has the rest (up to 8). */
+    /** The LOWS of a key become so many rows, so many LOWS in all: two each, the first has the rest (up to 13 more). */
     static void rows(Index x, int set, int key, int rows, int lows) {
         x.range(set, key, 0, 65535, 1);
         x.steps(set, key, 0, 16);
@@ -52,42 +52,60 @@ final class Made {
     }
 
     /**
-     * Makes RUNS that shrink() would not: a set with key 0, an ARRAY of the LOWS 0 to 4, and key 1,
-     * 4095 RUNS of one LOW each (LOW 16 i), or of two. They are THE BYTES then too, 16405 of them.
+     * Makes RUNS that shrink() would not: a set with key 0, an ARRAY of some LOWS from 0 on, and key 1,
+     * so many RUNS (up to 8191) of one LOW each, LOW 8 i, or of two. They are THE BYTES then too.
      *
      * Only read() makes such RUNS, and typing them would take more calls than an index has. So the
-     * bytes come from two BITMAPS, whose bits hold a number that counts up by one in every 32 bits.
-     * Uses sets 5 and 6 as well; takes some 150 calls and 33 of WORK.
+     * bytes come from BITMAPS, whose bits hold a number that counts up by one in every 32 bits. The
+     * ARRAY is there because the head of BITMAPS is longer: it fills what is over.
+     * Uses sets 5 and 6 as well; takes some 150 calls and 40 of WORK.
      */
-    static void singleRuns(Index x, int set, boolean ofTwo) {
+    static void singleRuns(Index x, int set, int runs, boolean ofTwo) {
+        int bitmaps = runs / 2048 + 1;
         x.clear(set);
         countingBits(x, set);
         if (ofTwo) {
             x.steps(set, 0, 24, 32);
         }
         x.write(set);
-        x.alter(8, 1);
-        x.read(5);
-        x.steps(5, 1, 12 + 11, 32);
-        x.join(set, 1, set, 5);
-        x.write(set);
-        int told = ofTwo ? 8189 : 4094;
-        int[] head = {0x3B, 0x30, 1, 0, 2, 0, 0, 4, 0, 1, 0, told & 255, told >> 8,
-            0, 0, 1, 0, 2, 0, 3, 0, 4, 0, 0xFF, 0x0F};
-        for (int i = 0; i < head.length; i++) {
-            x.alter(i, head[i]);
+        for (int k = 1; k < bitmaps; k++) {
+            x.alter(8, k);
+            x.read(5);
+            for (int bit = 0; bit < 2; bit++) {
+                if ((k >> bit & 1) == 1) {
+                    x.steps(5, k, 8 + 3 + 11 + bit, 32);
+                }
+            }
+            x.join(set, 1, set, 5);
         }
-        x.cut(head.length + 4 * 4095);
+        x.write(set);
+        alterToRuns(x, 4 * bitmaps - 3, 1, runs, ofTwo ? 2 * runs : runs);
         x.read(set);
         x.clear(5);
         x.clear(6);
     }
 
-    /** In each 32 LOWS of key 0, the ones from 12 on hold bits 0 to 10 of how many 32 are ahead. */
+    /** Makes a new head: key 0 is an ARRAY of so many LOWS, the other key RUNS of what comes behind. */
+    private static void alterToRuns(Index x, int lows, int key, int runs, int numbers) {
+        int[] head = new int[15 + 2 * lows];
+        int[] first = {0x3B, 0x30, 1, 0, 2, 0, 0, lows - 1, 0, key, 0, numbers - 1 & 255, numbers - 1 >> 8};
+        System.arraycopy(first, 0, head, 0, first.length);
+        for (int low = 0; low < lows; low++) {
+            head[first.length + 2 * low] = low;
+        }
+        head[head.length - 2] = runs & 255;
+        head[head.length - 1] = runs >> 8;
+        for (int i = 0; i < head.length; i++) {
+            x.alter(i, head[i]);
+        }
+        x.cut(head.length + 4 * runs);
+    }
+
+    /** In each 32 LOWS of key 0, the ones from 11 on hold bits 0 to 10 of how many 32 are ahead. */
     private static void countingBits(Index x, int set) {
         for (int bit = 0; bit < 5; bit++) {
             for (int i = 1 << bit; i < 2 << bit; i++) {
-                x.steps(set, 0, 32 * i + 12 + bit, 64 << bit);
+                x.steps(set, 0, 32 * i + 11 + bit, 64 << bit);
             }
         }
         for (int bit = 5; bit < 11; bit++) {
@@ -97,17 +115,17 @@ final class Made {
             for (int from = half; from < 65536; from += 2 * half) {
                 x.range(5, 0, from, from + half - 1, 0);
             }
-            x.steps(6, 0, 12 + bit, 32);
+            x.steps(6, 0, 11 + bit, 32);
             x.formula(set, signs(set, 5, 6, AND, OR), 5);
         }
     }
 
     /**
      * A set that is written by 59999 bytes, the most that a set with RUNS can have (their number is
-     * never even): an ARRAY of 1303 LOWS, twice 4095 RUNS and three BITMAPS.
+     * never even): an ARRAY of the LOWS 0 to 1302, twice 4095 RUNS and three BITMAPS.
      */
     static void longSet(Index x, int set) {
-        singleRuns(x, set, false);
+        singleRuns(x, set, 4095, false);
         x.alter(9, 2);
         x.read(5);
         x.join(set, 1, set, 5);
@@ -116,5 +134,14 @@ final class Made {
             x.steps(set, key, 0, 2);
         }
         x.range(set, 0, 0, 1302, 0);
+    }
+
+    /** Likewise, but with three containers, so that no places are told: LOWS 0 to 12, 8191 RUNS, 6797 RUNS. */
+    static void longSetOfThree(Index x, int set) {
+        singleRuns(x, set, 8191, false);
+        alterToRuns(x, 13, 2, 6797, 6797);
+        x.read(5);
+        x.join(set, 1, set, 5);
+        x.clear(5);
     }
 }
