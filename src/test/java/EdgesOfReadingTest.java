@@ -120,6 +120,14 @@ public final class EdgesOfReadingTest {
         faulty("half a KEY", 1, 6, 0x3B, 0x30, 0, 0, 1, 9);
         faulty("no total", 1, 7, 0x3B, 0x30, 0, 0, 1, 9, 0);
         faulty("half a total", 1, 8, 0x3B, 0x30, 0, 0, 1, 9, 0, 9);
+        faulty("no KEY, no bit of RUNS", 1, 5, 0x3B, 0x30, 0, 0, 0);
+        faulty("half a KEY, no bit of RUNS", 1, 6, 0x3B, 0x30, 0, 0, 0, 9);
+        faulty("no total, no bit of RUNS", 1, 7, 0x3B, 0x30, 0, 0, 0, 9, 0);
+        faulty("half a total, no bit of RUNS", 1, 8, 0x3B, 0x30, 0, 0, 0, 9, 0, 0);
+        faulty("no LOW, no bit of RUNS", 1, 9, 0x3B, 0x30, 0, 0, 0, 9, 0, 0, 0);
+        faulty("no second KEY, no bit of RUNS", 1, 9, 0x3B, 0x30, 1, 0, 0, 9, 0, 0, 0);
+        faulty("no second total, no bit of RUNS", 1, 11, 0x3B, 0x30, 1, 0, 0, 9, 0, 0, 0, 10, 0);
+        faulty("no third KEY, no bit of RUNS", 1, 13, 0x3B, 0x30, 2, 0, 0, 9, 0, 0, 0, 10, 0, 0, 0);
         faulty("half of the second KEY, though it can't rise", 1, 10, 0x3B, 0x30, 1, 0, 3, 9, 9, 0, 0, 0);
         faulty("no place", 1, 12, 0x3A, 0x30, 0, 0, 1, 0, 0, 0, 0, 0, 0, 0);
         faulty("three bytes of a place", 1, 15, 0x3A, 0x30, 0, 0, 1, 0, 0, 0, 0, 0, 0, 0, 9, 9, 9);
